@@ -358,7 +358,7 @@ public final class TwoSurveys {
         switch (what) {
             case 0: return matching.pairs();
             case 1: return matching.turnedTriples(towns);
-            case 2: return matching.isSameExchanged(towns) ? 1 : 0;
+            case 2: return matching.isSameExchanged() ? 1 : 0;
             case 3: return matching.unmatched(towns, 0);
             case 4: return matching.unmatched(towns, 1);
             default: return expressedStreets(towns);
@@ -447,7 +447,7 @@ public final class TwoSurveys {
                 numbers[n] = number;
                 next++;
             }
-            return wanted > 0 && take(letter, towns);
+            return take(letter, towns);
         }
 
         /** How many numbers follow a letter; 0 if no item begins with it. */
@@ -844,7 +844,7 @@ public final class TwoSurveys {
             for (int round = 0; round < towns.rounds(); round++) {
                 improve(towns);
             }
-            pairs = pairUp(towns, 0, mates0, mates1);
+            pairs = pairUp(0, mates0, mates1);
         }
 
         int pairs() {
@@ -877,8 +877,8 @@ public final class TwoSurveys {
         }
 
         /** Whether survey 1, when it leads the order of equal beliefs, is matched in the same pairs. */
-        boolean isSameExchanged(Towns towns) {
-            pairUp(towns, 1, exchanged0, exchanged1);
+        boolean isSameExchanged() {
+            pairUp(1, exchanged0, exchanged1);
             for (int i = 0; i < MOST; i++) {
                 if (mates0[i] != exchanged0[i]) {
                     return false;
@@ -972,7 +972,7 @@ public final class TwoSurveys {
          * Matches pairs by falling belief, of several first that with the smallest number in the
          * leading survey, and then in the other; answers how many.
          */
-        private int pairUp(Towns towns, int leading, int[] of0, int[] of1) {
+        private int pairUp(int leading, int[] of0, int[] of1) {
             for (int i = 0; i < MOST; i++) {
                 of0[i] = NOBODY;
                 of1[i] = NOBODY;
