@@ -1,22 +1,51 @@
-/** The document's examples 1 to 5, each on a new object. */
+import java.io.IOException;
+import java.nio.file.Files;
+import java.nio.file.Path;
+
+/** The document's examples 1 to 5, each on a new object; at last that the document gives just these, in this order. */
 public final class ExamplesTest {
+    private static final Path DOCUMENT = Path.of("../shared/DOC.md");
+    private static final String[] TITLES = {"Beliefs, matches, and a meeting that is transferred", "Acts are undone",
+        "A text with a fault", "Shelves, and streets removed and added", "States that are kept"};
+
+    private static final StringBuilder[] RUNS = new StringBuilder[TITLES.length];
     private static int wrong = 0;
 
+    /** The call is told with the number of its example: "1: call". */
     private static void due(String call, int got, int want) {
         if (got != want) {
             wrong++;
             System.out.println(call + " answered " + got + ", due is " + want);
         }
+        StringBuilder run = RUNS[call.charAt(0) - '1'];
+        run.append(run.isEmpty() ? "" : "; ").append(call.substring(3)).append(" = ").append(want);
     }
 
-    public static void main(String[] args) {
+    public static void main(String[] args) throws IOException {
+        for (int n = 0; n < RUNS.length; n++) {
+            RUNS[n] = new StringBuilder();
+        }
         beliefsMatchesAndTransfer();
         actsAreUndone();
         textWithFault();
         shelvesAndStreets();
         statesThatAreKept();
+        compareWithDocument();
         if (wrong != 0) {
             System.exit(1);
+        }
+    }
+
+    private static void compareWithDocument() throws IOException {
+        StringBuilder want = new StringBuilder("Each of them begins with a new object; the results are given behind the"
+                + " calls.");
+        for (int n = 0; n < RUNS.length; n++) {
+            want.append(' ').append(n + 1).append(". ").append(TITLES[n]).append(": ").append(RUNS[n]).append('.');
+        }
+        String document = Files.readString(DOCUMENT).replaceAll("\\s+", " ");
+        if (!document.contains(" Examples: " + want + " The constructor and the methods follow")) {
+            wrong++;
+            System.out.println("the examples of the document are other ones than: " + want);
         }
     }
 

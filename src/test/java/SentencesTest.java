@@ -16,14 +16,15 @@ import java.util.regex.Matcher;
 import java.util.regex.Pattern;
 
 /**
- * For each sentence of the document that names an edge a test of its own: the last value that is taken and the
- * first that is refused, at both ends; the empty and the full; and that a refused call leaves every answer as it was.
+ * For each sentence of the document a test of its own: what it says of ordinary inputs; the last value that is taken
+ * and the first that is refused, at both ends; the empty and the full; and that a refused call leaves every answer as
+ * it was.
  *
  * <p>A test is a method with the number of its promise and the words of the document that it stands for. At last the
- * document itself is read: words that it does not say are a fault here, and so is each number, code or limit in it
- * for which no test stands.
+ * document itself is read: words that it does not say are a fault here, and so is each word in it for which no test
+ * stands. (ExamplesTest has the document's examples, FaceTest its signatures.)
  */
-public final class EdgesTest {
+public final class SentencesTest {
     private static final Path DOCUMENT = Path.of("../shared/DOC.md");
     private static final int BAD = -1, NO = -2, FULL = -3, NONE = -4, EVEN = 100000;
     private static final int PROMISES = 26;
@@ -69,7 +70,7 @@ public final class EdgesTest {
 
     private static List<Method> tests() {
         List<Method> tests = new ArrayList<>();
-        for (Method method : EdgesTest.class.getDeclaredMethods()) {
+        for (Method method : SentencesTest.class.getDeclaredMethods()) {
             if (method.isAnnotationPresent(Says.class)) {
                 tests.add(method);
             }
@@ -420,6 +421,79 @@ public final class EdgesTest {
         same(got.name, look(got.make(), got, MATCHING), look(want.make(), want, MATCHING));
     }
 
+    /** The call answers that, and what a view tells is then as before, but for what is told here ("x=none": not there). */
+    private static void changes(Town town, String view, String call, int answer, String... told) {
+        Map<String, String> want = byName(look(town.make(), town, view));
+        for (String each : told) {
+            want.put(each.substring(0, each.indexOf('=')), each.substring(each.indexOf('=') + 1));
+        }
+        want.values().removeIf(value -> value.equals("none"));
+        TwoSurveys x = town.make();
+        due("(" + town.name + ") " + call, ask(x, call), answer);
+        Map<String, String> got = byName(look(x, town, view));
+        TreeSet<String> names = new TreeSet<>(want.keySet());
+        names.addAll(got.keySet());
+        for (String name : names) {
+            due("(" + town.name + ") behind " + call + ": " + name, "" + got.get(name), "" + want.get(name));
+        }
+    }
+
+    private static Map<String, String> byName(String told) {
+        Map<String, String> values = new HashMap<>();
+        for (String each : told.trim().split(" ")) {
+            values.put(each.substring(0, each.indexOf('=')), each.substring(each.indexOf('=') + 1));
+        }
+        return values;
+    }
+
+    // ---- what it is
+
+    @Says(promise = 0, value = "Conflation of two road surveys of the same town. Meetings of streets in the one survey are"
+        + " matched with near ones in the other, by a similarity that is improved by the similarities of their neighbors.")
+    private static void whatItIsNeighborsImprove() {
+        String town = "a0,7,0;a0,9,0;b0,0,0;b0,6,0;s0,1,0;t0,1,0;";
+        answers(laid("n0;" + town), "match(0, 0) = 1; match(0, 1) = 0; match(1, 0) = 1; match(1, 1) = 0");
+        for (int rounds = 1; rounds <= 3; rounds++) {
+            answers(laid("n" + rounds + ";" + town), "match(0, 0) = 0; match(0, 1) = 1; match(1, 0) = 0; match(1, 1) = 1;"
+                    + "cut(0, 0) = 0; match(0, 0) = 1; match(0, 1) = 0; move(1, 0, 60, 60) = 1; match(0, 1) = NONE");
+        }
+    }
+
+    private static final String SHEET = "r2;n0;a0,0,0;a0,10,0;a0,0,10;a0,3,3;b0,0,0;b0,12,0;b0,0,11;s0,1,0;s1,3,5;"
+            + "t0,2,4;t2,1,4;";
+
+    @Says(promise = 0, value = "Streets of the first survey are expressed by streets of the second, names are carried over, and"
+        + " unmatched meetings are transferred by triangles of matched ones (rubber sheeting).")
+    private static void whatItIsCarriesOver() {
+        answers(laid(SHEET), "told(0, -1) = 2; told(0, 0) = 0; told(0, 1) = 2; told(0, 2) = 1; named(0) = 4;"
+                + "told(1, -1) = NONE; named(1) = 5; match(0, 3) = NONE; comes(3, 0) = 100018; comes(3, 1) = 5;"
+                + "comes(3, 2) = 100033; comes(3, 3) = 10");
+    }
+
+    @Says(promise = 0, value = "The class reads surveys from a text, edits them with undo, computes all this exactly, and also has"
+        + " shelves (typed arrays) for meetings and streets.")
+    private static void whatItIsReadsEditsAndShelves() {
+        answers(INITIAL.then(writes(SHEET)), "lay() = 7; comes(3, 1) = 5; move(0, 3, 4, 3) = 1; comes(3, 0) = 100024;"
+                + "comes(3, 1) = 5; cut(1, 0) = 1; named(0) = 0; undo() = 1; named(0) = 4; undo() = 0; comes(3, 0) = 100018;"
+                + "shelve(0, 0, 3) = 1; shelve(0, 0, 8) = NO; shelve(1, 0, 9) = 1; shelve(1, 0, 3) = NO; shelf(0, 0) = 3;"
+                + "shelf(1, 0) = 9");
+    }
+
+    @Says(promise = 0, value = "An object is used for at most 512 calls after it has been made; what later calls answer is free.")
+    private static void whatItIsLaterCallsComeBack() {
+        List<String> calls = split("write(97); fault(); lay(); meeting(0, 0, 3); street(0, 0, 2); move(0, 0, 1, 1);"
+                + "move(0, 0, 2, 2); rename(0, 0, 1); rename(0, 0, 2); name(0, 0, 1); name(0, 0, 2); join(1, 0, 1, 2);"
+                + "cut(1, 0); tune(0, 20); tune(0, 3); undo(); belief(0, 0); match(0, 0); told(0, -1); named(0); comes(0, 0);"
+                + "whole(1); whole(5); shelve(0, 0, 0); shelf(0, 0); day(7, 20, 1); keep(); keep(); back(); count(9)");
+        for (Town town : ALL) {
+            TwoSurveys x = town.make();
+            for (int n = 0; n < 60 * calls.size(); n++) {
+                // Whatever it answers, it does not break off.
+                ask(x, calls.get(n % calls.size()));
+            }
+        }
+    }
+
     // ---- promise 1: a new object
 
     @Says(promise = 1, value = {"Creates the initial surveys",
@@ -505,6 +579,17 @@ public final class EdgesTest {
         for (int letter = 32; letter <= 126; letter++) {
             due("write(" + letter + ")", x.write(letter), letter - 31);
         }
+    }
+
+    @Says(promise = 2, value = "Appends a character to the text buffer.")
+    private static void promise2Appends() {
+        changes(INITIAL, "", "write(97)", 1, "count(8)=1", "fault()=0");
+        changes(BUSY, "", "write(44)", 12, "count(8)=12");
+        changes(INITIAL.then(writes("r1")), "", "write(59)", 3, "count(8)=3", "fault()=" + NONE);
+        answers(INITIAL.then(writes("a1,2,34;b3,45,6;")), "lay() = 2; meeting(0, 0, 0) = 1; meeting(0, 0, 1) = 2;"
+                + "meeting(0, 0, 2) = 34; meeting(1, 0, 0) = 3; meeting(1, 0, 1) = 45; meeting(1, 0, 2) = 6;"
+                + "write(98) = 17; write(127) = BAD; write(48) = 18; write(44) = 19; write(55) = 20; write(31) = BAD;"
+                + "write(44) = 21; write(56) = 22; write(59) = 23; lay() = 3; meeting(1, 1, 1) = 7; meeting(1, 1, 2) = 8");
     }
 
     @Says(promise = 2, value = {"BAD if letter is out of range", UNCHANGED})
@@ -712,8 +797,8 @@ public final class EdgesTest {
         faultyBehind(TWO_AND_THREE, "s,1,1;", "s0,,1;", "s0,1,;", "s000,1,1;", "s0,001,1;", "s0,1,001;", "t0,1,000;");
     }
 
-    @Says(promise = 4, value = "Each item is a letter, followed by numbers with a comma between two of them, followed by a"
-        + " semicolon.")
+    @Says(promise = 4, value = {"Each item is a letter, followed by numbers with a comma between two of them, followed by a"
+        + " semicolon.", "The items are:"})
     private static void promise4MarksOfItems() {
         good("r1;n1;a0,1,1;b0,1,1;");
         faulty("1;", "1,1;", ";", ",", "rr1;", "ar1;", "ab0,1,1;", "R1;", "N1;", "A0,1,1;", "B0,1,1;");
@@ -857,6 +942,41 @@ public final class EdgesTest {
         answers(CROWDED, "meeting(0, 0, 1) = 10; meeting(0, 7, 1) = 35; meeting(1, 0, 1) = 11; meeting(1, 7, 1) = 34");
     }
 
+    @Says(promise = 6, value = {"Describes a meeting.", "the meeting", "Returns the value;"})
+    private static void promise6DescribesEach() {
+        int[] reaches = {12, 6, 17, 7};
+        for (Town town : new Town[] {laid(START), laid(FULL_TEXT).then("tune(0, 12)")}) {
+            TwoSurveys x = town.make();
+            int[] next = new int[2];
+            for (String item : split(town.text)) {
+                int survey = "ab".indexOf(item.charAt(0));
+                if (survey >= 0) {
+                    String of = "(" + town.name + ") meeting(" + survey + ", " + next[survey] + ", ";
+                    String[] numbers = item.substring(1).split(",");
+                    for (int what = 0; what < 3; what++) {
+                        int want = Integer.parseInt(numbers[what]);
+                        due(of + what + ")", x.meeting(survey, next[survey], what), want);
+                    }
+                    due(of + "3)", x.meeting(survey, next[survey], 3), reaches[Integer.parseInt(numbers[0])]);
+                    due(of + "4)", x.meeting(survey, next[survey], 4), streetsAt(town.text, survey, next[survey]));
+                    next[survey]++;
+                }
+            }
+        }
+    }
+
+    private static int streetsAt(String text, int survey, int i) {
+        int found = 0;
+        for (String item : split(text)) {
+            String[] numbers = item.substring(1).split(",");
+            boolean isAtIt = numbers[0].equals("" + i) || numbers.length > 1 && numbers[1].equals("" + i);
+            if (item.charAt(0) == "st".charAt(survey) && isAtIt) {
+                found++;
+            }
+        }
+        return found;
+    }
+
     @Says(promise = 6, value = {"0: the kind; 1: x; 2: y; 3: the reach; 4: how many streets it has", "or what is out of"
         + " range", UNCHANGED})
     private static void promise6RefusesWhat() {
@@ -924,6 +1044,24 @@ public final class EdgesTest {
         answers(INITIAL, "street(0, 5, 0) = 4; street(0, 6, 0) = BAD; cut(0, 5) = 5; street(0, 5, 0) = BAD");
     }
 
+    @Says(promise = 7, value = {"Describes a street.", "the street", "Returns the value;"})
+    private static void promise7DescribesEach() {
+        for (String text : new String[] {START, FULL_TEXT, "a0,1,1;" + EIGHT_OTHERS + "t7,0,9;t3,5,0;t5,7,1;t6,2,2;"}) {
+            TwoSurveys x = laid(text).make();
+            int[] next = new int[2];
+            for (String item : split(text)) {
+                int survey = "st".indexOf(item.charAt(0));
+                for (int what = 0; survey >= 0 && what < 3; what++) {
+                    due("street(" + survey + ", " + next[survey] + ", " + what + ") of " + text,
+                            x.street(survey, next[survey], what), Integer.valueOf(item.substring(1).split(",")[what]));
+                }
+                if (survey >= 0) {
+                    next[survey]++;
+                }
+            }
+        }
+    }
+
     @Says(promise = 7, value = {"0: u; 1: v; 2: the name", "or what is out of range", UNCHANGED})
     private static void promise7RefusesWhat() {
         refused(BAD, beyond("street(0, 0, ?)", 0, 2));
@@ -954,6 +1092,18 @@ public final class EdgesTest {
         refused(BAD, beyond("move(1, 0, 1, ?)", 0, 60), INITIAL, CROWDED);
         answers(INITIAL, "move(0, 1, 6, 0) = 1; meeting(0, 1, 2) = 0; meeting(0, 1, 1) = 6; move(0, 1, 6, 60) = 1;"
                 + "meeting(0, 1, 2) = 60; move(1, 5, 18, 0) = 1; move(1, 5, 18, 60) = 1; meeting(1, 5, 2) = 60");
+    }
+
+    @Says(promise = 8, value = {"Moves a meeting.", "the meeting"})
+    private static void promise8MovesNothingElse() {
+        for (int n = 0; n < 16; n++) {
+            String meeting = n / 8 + ", " + n % 8;
+            String named = "m" + n / 8 + n % 8;
+            changes(CROWDED, "", "move(" + meeting + ", " + (1 + n) + ", " + (58 - n) + ")", 1, named + "1=" + (1 + n),
+                    named + "2=" + (58 - n));
+        }
+        changes(INITIAL, "", "move(0, 3, 6, 25)", 1, "m032=25", "count(6)=1");
+        changes(INITIAL, "", "move(1, 0, 9, 7)", 1, "m101=9", "count(6)=1");
     }
 
     @Says(promise = 8, value = "Returns 1;")
@@ -995,6 +1145,22 @@ public final class EdgesTest {
                 + "rename(1, 3, 3) = 0; meeting(1, 3, 0) = 3; rename(1, 3, 0) = 3; meeting(1, 3, 0) = 0");
     }
 
+    @Says(promise = 9, value = {"Changes the kind of a meeting.", "the meeting"})
+    private static void promise9ChangesNothingElse() {
+        int[] reaches = {10, 5, 15, 6};
+        int[] kinds = {0, 0, 0, 1, 2, 3, 0, 0, 0, 0, 0, 0, 0, 0, 0, 0};
+        for (int n = 0; n < 16; n++) {
+            for (int k = 0; k <= 3; k++) {
+                String named = "m" + n / 8 + n % 8;
+                if (k != kinds[n]) {
+                    changes(CROWDED, "", "rename(" + n / 8 + ", " + n % 8 + ", " + k + ")", kinds[n], named + "0=" + k,
+                            named + "3=" + reaches[k]);
+                }
+            }
+        }
+        changes(INITIAL, "", "rename(0, 5, 0)", 2, "m050=0", "m053=12", "count(6)=1");
+    }
+
     @Says(promise = 9, value = "Returns the previous kind")
     private static void promise9TellsThePreviousKind() {
         answers(INITIAL, "rename(0, 5, 0) = 2; rename(0, 5, 1) = 0; rename(0, 5, 2) = 1; rename(0, 5, 3) = 2;"
@@ -1029,6 +1195,22 @@ public final class EdgesTest {
         refused(BAD, beyond("name(1, 0, ?)", 0, 9), INITIAL, CROWDED, UNEVEN);
         answers(INITIAL, "name(0, 0, 0) = 3; street(0, 0, 2) = 0; name(0, 0, 9) = 0; street(0, 0, 2) = 9;"
                 + "name(1, 5, 9) = 5; street(1, 5, 2) = 9; name(1, 5, 0) = 9; street(1, 5, 2) = 0");
+    }
+
+    @Says(promise = 10, value = {"Changes the name of a street.", "the street"})
+    private static void promise10ChangesNothingElse() {
+        int[] names = {3, 0, 4, 0, 5, 0, 1, 9, 3, 6, 4, 7, 7, 1, 5, 9};
+        for (int n = 0; n < 16; n++) {
+            String call = "name(" + n / 8 + ", " + n % 8 + ", 8)";
+            changes(CROWDED, "", call, names[n], "s" + n / 8 + n % 8 + "2=8");
+        }
+        // A name of survey 0 has no say in the matching.
+        for (int s = 0; s < 8; s++) {
+            changes(CROWDED, MATCHING, "name(0, " + s + ", 8)", names[s], "named" + s + "=8");
+        }
+        changes(INITIAL, "", "name(1, 2, 0)", 4, "s122=0", "count(6)=1");
+        changes(INITIAL, MATCHING, "name(1, 3, 6)", 7, "named3=0");
+        changes(INITIAL, MATCHING, "name(1, 1, 9)", 6, "named1=9");
     }
 
     @Says(promise = 10, value = "Returns the previous name")
@@ -1085,6 +1267,18 @@ public final class EdgesTest {
                 + "join(1, 0, 2, 9) = 7; street(1, 6, 2) = 9; join(1, 5, 0, 0) = 8; street(1, 7, 2) = 0");
     }
 
+    @Says(promise = 11, value = {"Adds a street.", "a meeting", "another meeting"})
+    private static void promise11AddsBehindTheOthers() {
+        changes(INITIAL, "", "join(0, 5, 0, 9)", 7, "s060=5", "s061=0", "s062=9", "m004=3", "m054=2", "count(2)=7",
+                "count(6)=1");
+        changes(INITIAL, "", "join(1, 0, 5, 7)", 7, "s160=0", "s161=5", "s162=7", "m104=3", "m154=3", "count(3)=7",
+                "count(6)=1");
+        changes(LEAST.then("wipe();" + writes(EIGHT + EIGHT_OTHERS) + "lay()"), "", "join(1, 7, 6, 0)", 1, "s100=7",
+                "s101=6", "s102=0", "m164=1", "m174=1", "count(3)=1", "count(6)=1");
+        answers(laid(ENDS + "s0,1,0;"), "told(0, -1) = NONE; join(1, 0, 1, 5) = 1; told(0, -1) = 1; named(0) = 5; whole(5) = 1;"
+                + "join(0, 1, 0, 1) = NO; undo() = 0; told(0, -1) = NONE; named(0) = 0");
+    }
+
     @Says(promise = 11, value = "Returns how many streets the survey has then")
     private static void promise11TellsHowMany() {
         answers(laid(EIGHT + EIGHT_OTHERS), "join(0, 0, 1, 1) = 1; join(0, 0, 2, 1) = 2; join(1, 0, 1, 1) = 1;"
@@ -1135,6 +1329,16 @@ public final class EdgesTest {
         answers(CROWDED, "cut(0, 8) = BAD; cut(0, 7) = 7; cut(0, 7) = BAD; cut(1, 7) = 7; cut(1, 7) = BAD");
     }
 
+    @Says(promise = 12, value = {"Removes a street;", "the street"})
+    private static void promise12RemovesNothingElse() {
+        changes(INITIAL, "", "cut(0, 5)", 5, "s050=none", "s051=none", "s052=none", "m044=2", "m054=0", "count(2)=5",
+                "count(6)=1");
+        changes(INITIAL, "", "cut(1, 4)", 5, "s140=3", "s141=4", "s142=5", "s150=none", "s151=none", "s152=none", "m144=1",
+                "m154=1", "count(3)=5", "count(6)=1");
+        answers(laid(ENDS + "s0,1,0;t0,1,5;t0,2,6;"), "told(0, -1) = 1; cut(1, 1) = 1; told(0, -1) = 1; cut(1, 0) = 0;"
+                + "told(0, -1) = NONE; join(1, 0, 1, 5) = 1; told(0, -1) = 1");
+    }
+
     @Says(promise = 12, value = "Returns how many streets are left")
     private static void promise12TellsHowMany() {
         answers(CROWDED, "cut(0, 0) = 7; cut(0, 0) = 6; cut(0, 0) = 5; cut(0, 0) = 4; cut(1, 3) = 7; cut(0, 0) = 3;"
@@ -1174,7 +1378,7 @@ public final class EdgesTest {
         answers(INITIAL, "tune(0, 3) = 12; count(4) = 3; count(5) = 2; tune(1, 3) = 2; count(5) = 3; count(4) = 3");
     }
 
-    @Says(promise = 13, value = {"1 to 20 for R", "There are a radius R (1 to 20)", UNCHANGED})
+    @Says(promise = 13, value = {"the new value: 1 to 20 for R", "There are a radius R (1 to 20)", UNCHANGED})
     private static void promise13TakesR1To20() {
         refused(BAD, beyond("tune(0, ?)", 1, 20));
         answers(INITIAL, "tune(0, 1) = 12; count(4) = 1; meeting(0, 0, 3) = 1; tune(0, 20) = 1; count(4) = 20;"
@@ -1186,6 +1390,16 @@ public final class EdgesTest {
         refused(BAD, beyond("tune(1, ?)", 0, 3));
         refused(BAD, "tune(1, 20); tune(1, 12); tune(1, 10)");
         answers(INITIAL, "tune(1, 0) = 2; count(5) = 0; tune(1, 3) = 0; count(5) = 3; tune(1, 1) = 3; count(4) = 12");
+    }
+
+    @Says(promise = 13, value = "Changes the radius or the number of rounds.")
+    private static void promise13ChangesNothingElse() {
+        changes(INITIAL, "", "tune(0, 9)", 12, "count(4)=9", "m003=9", "m013=9", "m023=9", "m033=4", "m043=9", "m053=14",
+                "m103=9", "m113=9", "m123=9", "m133=9", "m143=9", "m153=9", "count(6)=1");
+        for (int rounds : new int[] {0, 1, 3}) {
+            changes(INITIAL, "", "tune(1, " + rounds + ")", 2, "count(5)=" + rounds, "count(6)=1");
+        }
+        answers(INITIAL, "tune(0, 2) = 12; match(0, 1) = NONE; tune(0, 3) = 2; match(0, 1) = 1; belief(0, 0) = NONE");
     }
 
     @Says(promise = 13, value = "Returns the previous value")
@@ -1367,6 +1581,38 @@ public final class EdgesTest {
                 + "undo() = 1; belief(0, 0) = 21816; undo() = 0; belief(0, 0) = 51712");
     }
 
+    @Says(promise = 15, value = "The squared distance of two meetings is the sum of the squares of the differences of x and of y.")
+    private static void promise15SquaredDistance() {
+        for (int across = -21; across <= 21; across++) {
+            TwoSurveys x = laid("r20;n0;a0,30,30;b0," + (30 + across) + ",5;").make();
+            for (int up = -21; up <= 21; up++) {
+                int distance = across * across + up * up;
+                due("move(1, 0, " + (30 + across) + ", " + (30 + up) + ")", x.move(1, 0, 30 + across, 30 + up), 1);
+                due("belief of 30, 30 in " + (30 + across) + ", " + (30 + up), x.belief(0, 0),
+                        distance <= 400 ? 512 * (401 - distance) : NONE);
+            }
+        }
+    }
+
+    @Says(promise = 15, value = {"In a round, the belief in each pair (i, j) becomes",
+        "Returns the belief in a pair after all rounds."})
+    private static void promise15EachPair() {
+        // i, j and the beliefs with 0, 1, 2 and 3 rounds; no others of the initial town are pairs.
+        int[][] pairs = {{0, 0, 67584, 67072, 67872, 67312}, {1, 1, 71680, 72832, 72192, 71672},
+            {2, 2, 69120, 52480, 44448, 40272}, {2, 5, 14848, 25344, 30880, 33488}, {3, 3, 61440, 64512, 61312, 57800},
+            {4, 4, 67584, 49152, 40704, 35680}, {4, 5, 7680, 21760, 29088, 32592}};
+        for (int rounds = 0; rounds <= 3; rounds++) {
+            TwoSurveys x = INITIAL.then("tune(1, " + rounds + ")").make();
+            for (int n = 0; n < 36; n++) {
+                int want = NONE;
+                for (int[] pair : pairs) {
+                    want = pair[0] == n / 6 && pair[1] == n % 6 ? pair[2 + rounds] : want;
+                }
+                due("belief(" + n / 6 + ", " + n % 6 + ") with " + rounds + " rounds", x.belief(n / 6, n % 6), want);
+            }
+        }
+    }
+
     @Says(promise = 15, value = "(0 if there are no such streets)")
     private static void promise15WithoutStreets() {
         int[] halves = {512 * 376, 256 * 376, 128 * 376, 64 * 376};
@@ -1378,9 +1624,10 @@ public final class EdgesTest {
         }
     }
 
-    @Says(promise = 15, value = "half of its belief before the round, plus one eighth of the sum of: for each street at i,"
-        + " with the other end k, the greatest belief in (k, l) over all streets at j, where l is the other end; and for each"
-        + " street at j, with the other end l, the greatest belief in (k, l) over all streets at i, where k is the other end")
+    @Says(promise = 15, value = "In a round, the belief in each pair (i, j) becomes half of its belief before the round, plus"
+        + " one eighth of the sum of: for each street at i, with the other end k, the greatest belief in (k, l) over all"
+        + " streets at j, where l is the other end; and for each street at j, with the other end l, the greatest belief in"
+        + " (k, l) over all streets at i, where k is the other end")
     private static void promise15GreatestOfStreets() {
         answers(laid("r10;n1;a0,0,0;a0,10,0;a0,7,0;b0,0,0;b0,9,0;s0,1,0;s2,0,0;t1,0,0;"),
                 "belief(0, 0) = 44864; belief(0, 1) = 11840; belief(1, 0) = 2816; belief(1, 1) = 38528; belief(2, 1) = 37760");
@@ -1423,13 +1670,25 @@ public final class EdgesTest {
     }
 
     @Says(promise = 16, value = {"Returns the meeting of the other survey with which it is matched",
-        "as long as there is a pair of two meetings that are not matched yet"})
+        "Then, as long as there is a pair of two meetings that are not matched yet"})
     private static void promise16Matches() {
         answers(laid("r2;n0;a0,0,0;a0,9,9;a0,20,20;b0,9,9;b0,20,20;b0,0,0;"), "match(0, 0) = 2; match(0, 1) = 0;"
                 + "match(0, 2) = 1; match(1, 0) = 1; match(1, 1) = 2; match(1, 2) = 0");
         answers(laid("r1;n0;a0,0,0;b0,0,1;"), "match(0, 0) = 0; match(1, 0) = 0");
         // 3 is nearer to 2 than to 4, and takes 4 all the same when 2 is taken.
         answers(laid("n0;a0,1,0;a0,3,0;b0,3,0;b0,9,0;"), "match(0, 0) = 1; match(0, 1) = 0");
+    }
+
+    @Says(promise = 16, value = {"Returns the match of a meeting.", "the meeting"})
+    private static void promise16MatchOfEach() {
+        answers(INITIAL, "match(0, 0) = 0; match(0, 1) = 1; match(0, 2) = 2; match(0, 3) = 3; match(0, 4) = 4;"
+                + "match(0, 5) = NONE; match(1, 0) = 0; match(1, 1) = 1; match(1, 2) = 2; match(1, 3) = 3; match(1, 4) = 4;"
+                + "match(1, 5) = NONE");
+        // Moved to where 3 was, 5 of survey 0 takes its match as it is nearer.
+        answers(INITIAL, "move(0, 5, 9, 28) = 1; match(0, 5) = NONE; move(0, 3, 60, 60) = 1; match(0, 5) = 3;"
+                + "match(1, 3) = 5; match(0, 3) = NONE");
+        answers(laid("n0;a0,5,5;a0,50,50;a0,30,30;b0,30,31;b0,5,6;b0,50,51;"), "match(0, 0) = 1; match(0, 1) = 2;"
+                + "match(0, 2) = 0; match(1, 0) = 2; match(1, 1) = 0; match(1, 2) = 1");
     }
 
     @Says(promise = 16, value = {"NONE if it is not matched", UNCHANGED})
@@ -1480,8 +1739,20 @@ public final class EdgesTest {
         answers(CROWDED, "told(0, -1) = 1; told(7, -1) = 1; told(8, -1) = BAD; cut(0, 7) = 7; told(7, -1) = BAD");
     }
 
+    @Says(promise = 17, value = {"Tells how a street of survey 0 is expressed.", "the street", "Returns the value;"})
+    private static void promise17TellsEach() {
+        int[][] ways = {{0, 1}, {1, 2}, {0, 3}, {1, 5, 4}, {3, 4}, {}};
+        TwoSurveys x = new TwoSurveys();
+        for (int s = 0; s < 6; s++) {
+            for (int k = -1; k <= 3; k++) {
+                int want = ways[s].length == 0 || k >= ways[s].length ? NONE : k < 0 ? ways[s].length - 1 : ways[s][k];
+                due("told(" + s + ", " + k + ")", x.told(s, k), want);
+            }
+        }
+    }
+
     @Says(promise = 17, value = {"-1 for the number of streets of the way, or an index from 0 for the k-th meeting of survey 1"
-        + " on the way (0 for the match of u)", "k is less than -1", UNCHANGED})
+        + " on the way (0 for the match of u)", "or k is less than -1", UNCHANGED})
     private static void promise17TakesKFromMinus1() {
         refused(BAD, "told(0, -2); told(0, -3); told(0, -257); told(0, -65537); told(0, -2147483648); told(5, -2)",
                 INITIAL, BUSY, CROWDED);
@@ -1490,7 +1761,7 @@ public final class EdgesTest {
         answers(THREE_STREETS, "told(0, -1) = 3; told(0, 0) = 0; told(0, 1) = 4; told(0, 2) = 5; told(0, 3) = 1");
     }
 
-    @Says(promise = 17, value = {"or the way has no k-th meeting.", UNCHANGED})
+    @Says(promise = 17, value = {"NONE if it is not expressed, or the way has no k-th meeting.", UNCHANGED})
     private static void promise17EndOfTheWay() {
         refused(NONE, "told(0, 2); told(0, 3); told(0, 4); told(0, 256); told(0, 65536); told(0, 2147483647)", INITIAL,
                 CROWDED);
@@ -1559,6 +1830,13 @@ public final class EdgesTest {
         answers(CROWDED, "named(0) = 3; named(7) = 9; named(8) = BAD; cut(0, 0) = 7; named(7) = BAD; named(6) = 9");
     }
 
+    @Says(promise = 18, value = {"the street", "Returns the name;"})
+    private static void promise18NamesEach() {
+        answers(INITIAL, "named(0) = 3; named(1) = 6; named(2) = 4; named(3) = 7; named(4) = 5; named(5) = 0");
+        answers(INITIAL.then("name(1, 1, 8); name(1, 3, 2); name(0, 4, 0)"), "named(0) = 3; named(1) = 8; named(2) = 4;"
+                + "named(3) = 0; named(4) = 5; name(1, 4, 2) = 7; named(3) = 2");
+    }
+
     @Says(promise = 18, value = "Returns the name that a street of survey 0 gets: its own name if this is not 0;")
     private static void promise18OwnName() {
         for (int own = 1; own <= 9; own++) {
@@ -1613,6 +1891,14 @@ public final class EdgesTest {
         }
         answers(UNEVEN, "comes(0, 0) = 100005; comes(1, 0) = BAD");
         answers(laid(EIGHT + "b0,2,3;"), "comes(7, 0) = 100002; comes(7, 2) = 100003; comes(8, 0) = BAD");
+    }
+
+    @Says(promise = 19, value = "Returns the value;")
+    private static void promise19EachComes() {
+        int[][] places = {{8, 7}, {22, 5}, {33, 11}, {9, 28}, {24, 27}, {39, 29}};
+        for (int i = 0; i < 6; i++) {
+            comes(START, i, places[i][0], 1, places[i][1], 1);
+        }
     }
 
     @Says(promise = 19, value = {"0: the numerator of x, plus EVEN; 1: the denominator of x; 2: the numerator of y, plus EVEN;"
@@ -1733,6 +2019,15 @@ public final class EdgesTest {
     private static void promise20RefusesWhat() {
         refused(BAD, beyond("whole(?)", 0, 5));
         answers(INITIAL, "whole(0) = 5; whole(1) = 0; whole(2) = 1; whole(3) = 32; whole(4) = 32; whole(5) = 5");
+    }
+
+    @Says(promise = 20, value = {"Returns a number of the whole matching.", "Returns the value;"})
+    private static void promise20EachNumber() {
+        answers(LEAST, "whole(0) = 1; whole(1) = 0; whole(2) = 1; whole(3) = 0; whole(4) = 0; whole(5) = 0");
+        answers(UNEVEN, "whole(0) = 1; whole(1) = 0; whole(2) = 1; whole(3) = 0; whole(4) = 2; whole(5) = 0");
+        answers(BUSY, "whole(0) = 5; whole(1) = 1; whole(2) = 1; whole(3) = 32; whole(4) = 32; whole(5) = 5");
+        answers(CROWDED, "whole(0) = 7; whole(1) = 0; whole(2) = 1; whole(3) = 64; whole(4) = 64; whole(5) = 8");
+        answers(laid("r20;" + SHEET), "whole(0) = 3; whole(1) = 0; whole(2) = 1; whole(3) = 8; whole(4) = 0; whole(5) = 1");
     }
 
     @Says(promise = 20, value = "0: the number of matched pairs;")
@@ -1904,7 +2199,7 @@ public final class EdgesTest {
         answers(CROWDED, "shelf(0, 0) = 0; shelf(1, 0) = 8; shelf(2, 0) = 7");
     }
 
-    @Says(promise = 22, value = {"the place, 0 to 3", "BAD if shelf or place is out of range", UNCHANGED})
+    @Says(promise = 22, value = {"Tells what is on a shelf.", "the place, 0 to 3", "BAD if shelf or place is out of range", UNCHANGED})
     private static void promise22TakesPlaces0To3() {
         for (int shelf = 0; shelf < 3; shelf++) {
             refused(BAD, beyond("shelf(" + shelf + ", ?)", 0, 3));
@@ -1959,8 +2254,8 @@ public final class EdgesTest {
         sameDays(7, 1, 2, 19, 20);
     }
 
-    @Says(promise = 23, value = {"0: the value of whole(0) then; 1: that of whole(1)", "BAD if an argument is out of range.",
-        UNCHANGED})
+    @Says(promise = 23, value = {"0: the value of whole(0) then; 1: that of whole(1)", "Returns the value; BAD if an argument is"
+        + " out of range.", UNCHANGED})
     private static void promise23TakesWhat0And1() {
         refused(BAD, beyond("day(7, 20, ?)", 0, 1));
         refused(BAD, "day(7, 20, 2); day(7, 20, 3); day(7, 20, 4); day(7, 20, 5)", INITIAL);
@@ -2095,6 +2390,18 @@ public final class EdgesTest {
         refused(BAD, beyond("count(?)", 0, 9));
     }
 
+    @Says(promise = 26, value = {"Returns a count.", "Returns the value;"})
+    private static void promise26EachCount() {
+        int[][] counts = {{6, 6, 6, 6, 12, 2, 0, 0, 0, 0}, {6, 6, 6, 6, 12, 2, 2, 1, 11, 2},
+            {8, 8, 8, 8, 10, 3, 8, 2, 200, 12}, {1, 1, 0, 0, 10, 2, 0, 0, 0, 0}, {1, 2, 0, 1, 7, 1, 0, 0, 34, 0}};
+        for (int n = 0; n < ALL.length; n++) {
+            TwoSurveys x = ALL[n].make();
+            for (int what = 0; what <= 9; what++) {
+                due("(" + ALL[n].name + ") count(" + what + ")", x.count(what), counts[n][what]);
+            }
+        }
+    }
+
     @Says(promise = 26, value = {"0: meetings of survey 0; 1: meetings of survey 1; 2: streets of survey 0; 3: streets of"
         + " survey 1; 4: R; 5: N", SIZES})
     private static void promise26CountsTheSurveys() {
@@ -2142,21 +2449,29 @@ public final class EdgesTest {
 
     /** The document says the words of the tests, and tests stand for its words. */
     private static void compareWithDocument(List<Method> tests) throws Exception {
-        String document = Files.readString(DOCUMENT).replaceAll("\\s+", " ");
-        String description = part(document, " ## Description ", " Examples: ") + " "
-                + part(document, " for meetings and streets. ", " ## The public face ");
+        String document = Files.readString(DOCUMENT).replaceAll("(?m)^### .*$", "").replaceAll("\\s+", " ");
+        String whatItIs = part(document, " ## What it is ", " ## ");
+        String description = part(document, " ## Description ", " Examples: ") + " " + whatItIs;
         boolean[] isTested = new boolean[description.length()];
-        for (int promise = 1; promise <= PROMISES; promise++) {
-            String says = part(document, " ## Promise " + promise + ": ", " ## ");
+        for (int promise = 0; promise <= PROMISES; promise++) {
+            String says = promise == 0 ? whatItIs
+                    : withoutMarks(part(document, " ## Promise " + promise + ": ", " ## "));
             boolean[] isTestedHere = new boolean[says.length()];
             for (Method each : tests) {
                 if (promiseOf(each) == promise) {
                     mark(each, says, isTestedHere, description, isTested);
                 }
             }
-            untested("promise " + promise, says, isTestedHere);
+            if (promise > 0) {
+                untested("promise " + promise, says, isTestedHere);
+            }
         }
         untested("the description", description, isTested);
+    }
+
+    /** Of a promise, what is behind its signature and the names of its arguments. */
+    private static String withoutMarks(String says) {
+        return says.replaceFirst("^[^`]*`[^`]*` (---- \\w+ )?", "").replaceAll("(^| )- `\\w+`:", "");
     }
 
     private static String part(String document, String from, String to) {
@@ -2188,14 +2503,13 @@ public final class EdgesTest {
         return isSaid;
     }
 
-    /** Words that tell of an edge, and for which no test stands. */
+    /** Words for which no test stands. */
     private static void untested(String where, String text, boolean[] isTested) {
-        Matcher edge = Pattern.compile("\\b(\\d+|BAD|NO|NONE|FULL|EVEN|empty|nothing|none|already|(at )?(most|least)|less|first"
-                + "|last|latest|smallest|smaller|greatest|fewest|rounded|different|exactly)\\b").matcher(text);
-        while (edge.find()) {
-            if (!isTested[edge.start()]) {
-                fault("no test stands for '" + edge.group() + "' in " + where + ": .."
-                        + text.substring(Math.max(0, edge.start() - 60), Math.min(text.length(), edge.end() + 40)) + "..");
+        Matcher word = Pattern.compile("\\w+").matcher(text);
+        while (word.find()) {
+            if (!isTested[word.start()]) {
+                fault("no test stands for '" + word.group() + "' in " + where + ": .."
+                        + text.substring(Math.max(0, word.start() - 60), Math.min(text.length(), word.end() + 40)) + "..");
             }
         }
     }
